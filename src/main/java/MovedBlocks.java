@@ -688,10 +688,12 @@ public final class MovedBlocks {
         private int costBelow(Scene scene, int block, int tried, int limit) {
             int x = xOf(tried);
             int y = yOf(tried);
+            int left = firstColumn(block);
+            int top = firstRow(block);
             int sum = scene.kind == DEAR ? DEAR_STEP * stepsOf(tried) : 0;
             for (int i = 0; i < BLOCK_DOTS && sum < limit; i++) {
-                int column = firstColumn(block) + i % SIDE;
-                int row = firstRow(block) + i / SIDE;
+                int column = left + i % SIDE;
+                int row = top + i / SIDE;
                 int far = Math.abs(scene.now.at(column, row) - scene.old.at(column + x, row + y));
                 sum += dotCost(scene.kind, far, i);
                 looks++;

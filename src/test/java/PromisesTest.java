@@ -542,6 +542,35 @@ public final class PromisesTest {
             due("x of " + block, x.of(block, 8), xs[block]);
             due("y of " + block, x.of(block, 9), 0);
         }
+        foretoldOfThree();
+    }
+
+    /** OLD has a dot within each block, NOW has it moved, each by another way. */
+    private static void foretoldOfThree() {
+        MovedBlocks x = new MovedBlocks();
+        int[] xs = {1, -1, 0, 1, -1, 1};
+        int[] ys = {0, 1, -1, -1, 0, 1};
+        for (int block = 0; block < 6; block++) {
+            due("paint", x.paint(block % 3 * 4 + 1, block / 3 * 4 + 1, block + 3), 0);
+        }
+        due("take", x.take(), 6);
+        for (int block = 0; block < 6; block++) {
+            int column = block % 3 * 4 + 1, row = block / 3 * 4 + 1;
+            due("paint", x.paint(column, row, 0), block + 3);
+            due("paint", x.paint(column - xs[block], row - ys[block], block + 3), 0);
+        }
+        for (int block = 0; block < 6; block++) {
+            due("best of " + block, x.of(block, 0), 7 * (ys[block] + 3) + xs[block] + 3);
+        }
+        // Left; left; the lesser of 1, -1 (0, 1); of 1, -1, 0 (-1, 1, -1); the lesser of -1, 0 (0, -1).
+        int[] xsTold = {0, 1, -1, -1, 0, -1};
+        int[] ysTold = {0, 0, 1, 0, -1, -1};
+        for (int block = 0; block < 6; block++) {
+            due("x of " + block, x.of(block, 8), xsTold[block]);
+            due("y of " + block, x.of(block, 9), ysTold[block]);
+        }
+        // x differs by 1, -2, 1, 2, -1, 2: 3, 5, 3, 5, 3, 5; y by 0, 1, -2, -1, 1, 2: 1, 3, 5, 3, 3, 5.
+        due("long", x.count(2), 24 + 20);
     }
 
     private static void rebuilt() {
@@ -748,6 +777,8 @@ public final class PromisesTest {
             due("all bits", x.item(0, lane, 0, over[lane - 1]), 1);
             due("found", x.found(0, lane, 0, 1), 0);
         }
+        due("a long", x.item(0, 3, 0, 24), 1);
+        due("found", x.found(0, 3, 0, 1), 31);
         due("index", x.item(0, 3, 1, 0), MovedBlocks.INDEX);
         due("index", x.item(0, 3, -1, 0), MovedBlocks.INDEX);
         due("cast", x.item(0, 0, -1, 0), MovedBlocks.CAST);
