@@ -532,6 +532,24 @@ public final class PromisesTest {
         // Halves beyond the edge are as the edge: 1 and 1 by 2; but the others are 0 all the same.
         due("up and left", y.of(0, 6), 0);
         due("nothing", y.of(0, 7), 0);
+        halfOneWay("b4444r8 0000r4 4444r8 0000r4 4444r8 0000r4 4444r8 0000r4", 3, 0, 0, 1, 5);
+        String low = "404040404040", high = "848484848484";
+        halfOneWay("b" + low + low + low + low + high + high + high + high, 0, 3, 1, 0, 7);
+    }
+
+    /** In NOW the last column or row of block 0 is 2 more than in OLD, and rows or columns differ among themselves. */
+    private static void halfOneWay(String text, int column, int row, int right, int down, int half) {
+        MovedBlocks x = new MovedBlocks();
+        due("both", tell(x, text), 96);
+        for (int i = 0; i < 4; i++) {
+            int c = column + i * right, r = row + i * down;
+            int was = x.dot(c, r, 1);
+            due("paint", x.paint(c, r, was + 2), was);
+        }
+        due("best", x.of(0, 0), 24);
+        due("cost", x.of(0, 1), 8);
+        due("half", x.of(0, 6), half);
+        due("it costs nothing", x.of(0, 7), 0);
     }
 
     private static void ofForetold() {
