@@ -6,7 +6,7 @@ import java.util.Deque;
 import java.util.List;
 import java.util.Random;
 
-/** Many runs of drawn calls, each answer compared with a slow model that was written from the document alone. */
+/** Many runs of drawn calls, each answer compared with a slow model that shares no code with the class. */
 public final class ModelTest {
     private static final int RUNS = 200, CALLS = 512;
     private static int wrong = 0;
