@@ -1,4 +1,5 @@
 import java.util.ArrayList;
+import java.util.Arrays;
 import java.util.Comparator;
 import java.util.List;
 import java.util.Random;
@@ -65,7 +66,7 @@ final class Dots {
 
     static int[] all(int figure) {
         int[] dots = new int[96];
-        java.util.Arrays.fill(dots, figure);
+        Arrays.fill(dots, figure);
         return dots;
     }
 

@@ -1,6 +1,7 @@
 import java.io.IOException;
 import java.nio.file.Files;
 import java.nio.file.Path;
+import java.util.Arrays;
 import java.util.LinkedHashMap;
 import java.util.Map;
 
@@ -52,7 +53,7 @@ final class Sentences {
     /** Of that section only some sentences are said here. */
     void partOf(String heading) {
         section(heading);
-        java.util.Arrays.fill(told, true);
+        Arrays.fill(told, true);
     }
 
     void promise(int number) {
