@@ -12,6 +12,10 @@ public final class MovedBlocks {
     private static final int KNOWN_MOST = 8, TURNS_MOST = 40, TAPE_ROOM = 120;
     private static final int SHEETS = 4, LANES = 4, ITEMS_MOST = 24;
     private static final int WRONG_MOST = 6, OUT_OF = 10;
+    private static final int DRAW_BITS = 0x7FFFFFFF;
+
+    /** The dearest move of all blocks together costs 7776. */
+    private static final int DEARER_THAN_ALL = 1000000;
 
     /** All moves by how far they are, then by their numbers. */
     private static final int[] ORDER = {
@@ -507,7 +511,7 @@ public final class MovedBlocks {
         }
 
         private void turn() {
-            draw = draw * 1103515245 + 12345 & Integer.MAX_VALUE;
+            draw = draw * 1103515245 + 12345 & DRAW_BITS;
             int x = draw / 65536;
             now.dots[x % DOTS] = x / DOTS % DOT_VALUES;
         }
@@ -645,7 +649,7 @@ public final class MovedBlocks {
         }
 
         private void pan(Scene scene) {
-            cost = Integer.MAX_VALUE;
+            cost = DEARER_THAN_ALL;
             for (int i = 0; i < MOVES; i++) {
                 int together = 0;
                 for (int block = 0; block < BLOCKS; block++) {
@@ -659,12 +663,12 @@ public final class MovedBlocks {
         }
 
         private int wholeCost(Scene scene, int block, int tried) {
-            return costBelow(scene, block, tried, Integer.MAX_VALUE);
+            return costBelow(scene, block, tried, DEARER_THAN_ALL);
         }
 
         private void tryMoves(Scene scene, int block, int middle, int reach, boolean bySums) {
             move = middle;
-            cost = Integer.MAX_VALUE;
+            cost = DEARER_THAN_ALL;
             looks = 0;
             leftOut = 0;
             for (int i = 0; i < MOVES; i++) {
@@ -739,7 +743,7 @@ public final class MovedBlocks {
         }
 
         private static int smallMove(Scene scene, int block) {
-            int least = Integer.MAX_VALUE;
+            int least = DEARER_THAN_ALL;
             int found = STILL;
             for (int i = 0; i < MOVES; i++) {
                 int tried = ORDER[i];
@@ -773,7 +777,7 @@ public final class MovedBlocks {
         private int cost = 0;
 
         private void look(Scene scene, int block, int move) {
-            cost = Integer.MAX_VALUE;
+            cost = DEARER_THAN_ALL;
             for (int i = 0; i < 9; i++) {
                 int tried = costBy(scene, block, move, i % 3 - 1, i / 3 - 1);
                 if (tried < cost) {

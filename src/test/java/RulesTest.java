@@ -107,7 +107,7 @@ public final class RulesTest {
         ask(!code.contains("->") && !code.contains("::"), "2: a lambda or a method reference");
         ask(code.chars().allMatch(c -> c == '\n' || c >= 32 && c < 127), "4: signs");
         Matcher library = Pattern.compile("\\b(System|Math|Integer|Long|Arrays)\\.(\\w+)").matcher(code);
-        Set<String> known = Set.of("System.arraycopy", "Math.abs", "Math.min", "Math.max", "Integer.MAX_VALUE");
+        Set<String> known = Set.of("System.arraycopy", "Math.abs", "Math.min", "Math.max");
         while (library.find()) {
             ask(known.contains(library.group()), "4: " + library.group());
         }
